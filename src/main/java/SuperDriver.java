@@ -20,7 +20,7 @@ public final class SuperDriver {
     private static final int TEXT_LIMIT = 24;
     private static final int NODE_LIMIT = 48;
     private static final int TERM_LIMIT = 40;
-    /** A variable may become a constructor with two parts before the unfolding shortens the term. */
+    /** Each variable may become a constructor with two parts before the term is unfolded. */
     private static final int SPLIT_LIMIT = 3 * TERM_LIMIT;
     private static final int RESIDUAL_LIMIT = 100;
     private static final int ROW_LIMIT = 200;
@@ -343,6 +343,25 @@ public final class SuperDriver {
             }
             return true;
         }
+
+        boolean isRenamingOf(Row other) {
+            if (length != other.length) {
+                return false;
+            }
+            for (int i = 0; i < length; i++) {
+                int sign = at(i);
+                int otherSign = other.at(i);
+                if (isVariable(sign) && isVariable(otherSign)) {
+                    // One for one: what comes first at a place here comes first there, too.
+                    if (indexOf(sign) != other.indexOf(otherSign)) {
+                        return false;
+                    }
+                } else if (sign != otherSign) {
+                    return false;
+                }
+            }
+            return true;
+        }
     }
 
     /** What variables stand for: each a range of signs in some row. */
@@ -380,10 +399,14 @@ public final class SuperDriver {
         }
     }
 
-    /** How many parts each sign has, which functions are cased, and so where terms end. */
+    /** How many parts each sign has and which functions are cased: so what terms are made of. */
     private static final class Signs {
         private final int[] parts = new int[SIGNS];
         private final boolean[] cased = new boolean[SIGNS];
+        private final int[] innerEnds = new int[TERM_LIMIT];
+        private final int[] outerEnds = new int[TERM_LIMIT];
+        /** Bit i at place j: the inner term's part at i is embedded in the outer one's at j. */
+        private final long[] embedded = new long[TERM_LIMIT];
 
         Signs() {
             for (int c = 0; c < CONSTRUCTORS; c++) {
@@ -449,6 +472,70 @@ public final class SuperDriver {
                 }
             }
             return NONE;
+        }
+
+        boolean isEmbedded(Row inner, Row outer) {
+            // An embedding finds each of the inner signs at a place of its own.
+            if (inner.isEmpty() || inner.length() > outer.length() || outer.length() > TERM_LIMIT) {
+                return false;
+            }
+            findEnds(inner, innerEnds);
+            findEnds(outer, outerEnds);
+            for (int j = outer.length() - 1; j >= 0; j--) {
+                long found = embeddedInParts(outer.at(j), j);
+                for (int i = 0; i < inner.length(); i++) {
+                    if (couples(inner.at(i), i, outer.at(j), j)) {
+                        found |= 1L << i;
+                    }
+                }
+                embedded[j] = found;
+            }
+            return isMarked(0, 0);
+        }
+
+        private long embeddedInParts(int sign, int j) {
+            long found = 0;
+            int place = j + 1;
+            for (int k = partsOf(sign); k > 0 && place < TERM_LIMIT; k--) {
+                found |= embedded[place];
+                place = outerEnds[place];
+            }
+            return found;
+        }
+
+        private boolean couples(int sign, int i, int outerSign, int j) {
+            if (isVariable(sign) || isVariable(outerSign)) {
+                return isVariable(sign) && isVariable(outerSign);
+            }
+            if (sign != outerSign) {
+                return false;
+            }
+            int innerPlace = i + 1;
+            int outerPlace = j + 1;
+            for (int k = partsOf(sign); k > 0; k--) {
+                if (!isMarked(innerPlace, outerPlace)) {
+                    return false;
+                }
+                innerPlace = innerEnds[innerPlace];
+                outerPlace = outerEnds[outerPlace];
+            }
+            return true;
+        }
+
+        private boolean isMarked(int i, int j) {
+            return i >= 0 && i < TERM_LIMIT && j >= 0 && j < TERM_LIMIT
+                && (embedded[j] >>> i & 1L) != 0;
+        }
+
+        private void findEnds(Row row, int[] ends) {
+            int length = Math.min(row.length(), ends.length);
+            for (int i = length - 1; i >= 0; i--) {
+                int end = i + 1;
+                for (int k = partsOf(row.at(i)); k > 0 && end < length; k--) {
+                    end = ends[end];
+                }
+                ends[i] = end;
+            }
         }
     }
 
@@ -692,7 +779,7 @@ public final class SuperDriver {
             return nextVariable - 1;
         }
 
-        /** A new open node with the signs of the row from one place to another; null if too great. */
+        /** A new open node with the row's signs from one place to another; null if too great. */
         Node add(Node above, Row row, int from, int to) {
             if (count < 0 || count >= NODE_LIMIT || to - from > TERM_LIMIT || row.isTooLong()) {
                 tooGreat = true;
@@ -715,102 +802,6 @@ public final class SuperDriver {
                 }
             }
             top.dropBelow();
-        }
-    }
-
-    /** Compares terms. */
-    private static final class Likeness {
-        private final Signs signs;
-        private final int[] innerEnds = new int[TERM_LIMIT];
-        private final int[] outerEnds = new int[TERM_LIMIT];
-        /** Bit i at place j: the inner term's part at i is embedded in the outer one's at j. */
-        private final long[] embedded = new long[TERM_LIMIT];
-
-        Likeness(Signs signs) {
-            this.signs = signs;
-        }
-
-        static boolean isRenaming(Row one, Row other) {
-            if (one.length() != other.length()) {
-                return false;
-            }
-            for (int i = 0; i < one.length(); i++) {
-                int sign = one.at(i);
-                int otherSign = other.at(i);
-                if (isVariable(sign) && isVariable(otherSign)) {
-                    // One for one: what comes first at a place here comes first there, too.
-                    if (one.indexOf(sign) != other.indexOf(otherSign)) {
-                        return false;
-                    }
-                } else if (sign != otherSign) {
-                    return false;
-                }
-            }
-            return true;
-        }
-
-        boolean isEmbedded(Row inner, Row outer) {
-            // An embedding finds each of the inner signs at a place of its own.
-            if (inner.isEmpty() || inner.length() > outer.length() || outer.length() > TERM_LIMIT) {
-                return false;
-            }
-            findEnds(inner, innerEnds);
-            findEnds(outer, outerEnds);
-            for (int j = outer.length() - 1; j >= 0; j--) {
-                long found = embeddedInParts(outer.at(j), j);
-                for (int i = 0; i < inner.length(); i++) {
-                    if (couples(inner.at(i), i, outer.at(j), j)) {
-                        found |= 1L << i;
-                    }
-                }
-                embedded[j] = found;
-            }
-            return isMarked(0, 0);
-        }
-
-        private long embeddedInParts(int sign, int j) {
-            long found = 0;
-            int place = j + 1;
-            for (int k = signs.partsOf(sign); k > 0 && place < TERM_LIMIT; k--) {
-                found |= embedded[place];
-                place = outerEnds[place];
-            }
-            return found;
-        }
-
-        private boolean couples(int sign, int i, int outerSign, int j) {
-            if (isVariable(sign) || isVariable(outerSign)) {
-                return isVariable(sign) && isVariable(outerSign);
-            }
-            if (sign != outerSign) {
-                return false;
-            }
-            int innerPlace = i + 1;
-            int outerPlace = j + 1;
-            for (int k = signs.partsOf(sign); k > 0; k--) {
-                if (!isMarked(innerPlace, outerPlace)) {
-                    return false;
-                }
-                innerPlace = innerEnds[innerPlace];
-                outerPlace = outerEnds[outerPlace];
-            }
-            return true;
-        }
-
-        private boolean isMarked(int i, int j) {
-            return i >= 0 && i < TERM_LIMIT && j >= 0 && j < TERM_LIMIT
-                && (embedded[j] >>> i & 1L) != 0;
-        }
-
-        private void findEnds(Row row, int[] ends) {
-            int length = Math.min(row.length(), ends.length);
-            for (int i = length - 1; i >= 0; i--) {
-                int end = i + 1;
-                for (int k = signs.partsOf(row.at(i)); k > 0 && end < length; k--) {
-                    end = ends[end];
-                }
-                ends[i] = end;
-            }
         }
     }
 
@@ -838,7 +829,7 @@ public final class SuperDriver {
                 return;
             }
             takeCommon(rival.term, lower.term);
-            if (Likeness.isRenaming(general, rival.term)) {
+            if (general.isRenamingOf(rival.term)) {
                 let(lower, lowerStarts);
             } else {
                 tree.removeBelow(rival);
@@ -915,7 +906,6 @@ public final class SuperDriver {
         private final Program source;
         private final Tree tree;
         private final Substitution change;
-        private final Likeness likeness;
         private final Generaliser generaliser;
         private final Row unfolded = new Row(TERM_LIMIT);
         private final Row replaced = new Row(SPLIT_LIMIT);
@@ -926,7 +916,6 @@ public final class SuperDriver {
             this.source = source;
             this.tree = tree;
             this.change = change;
-            likeness = new Likeness(signs);
             generaliser = new Generaliser(signs, tree);
         }
 
@@ -950,12 +939,18 @@ public final class SuperDriver {
             boolean splits = signs.isCased(term.at(at)) && isVariable(term.at(at + 1));
             if (!steps && !splits) {
                 node.become(STUCK, NONE);
-            } else if (!yieldsToRival(node, steps)) {
-                if (steps) {
-                    step(node, at);
-                } else {
-                    split(node, at);
-                }
+                return;
+            }
+            Node like = renamedRival(node, steps);
+            Node smaller = like == null ? embeddedRival(node, steps) : null;
+            if (like != null) {
+                node.fold(like);
+            } else if (smaller != null) {
+                generaliser.generalise(node, smaller);
+            } else if (steps) {
+                step(node, at);
+            } else {
+                split(node, at);
             }
         }
 
@@ -975,24 +970,9 @@ public final class SuperDriver {
             }
         }
 
-        /** True if the node is folded or generalised because of a rival. */
-        private boolean yieldsToRival(Node node, boolean steps) {
-            Node like = renamedRival(node, steps);
-            if (like != null) {
-                node.fold(like);
-                return true;
-            }
-            Node smaller = embeddedRival(node, steps);
-            if (smaller != null) {
-                generaliser.generalise(node, smaller);
-                return true;
-            }
-            return false;
-        }
-
         private static Node renamedRival(Node node, boolean steps) {
             for (Node up = nextRival(node, steps); up != null; up = nextRival(up, steps)) {
-                if (Likeness.isRenaming(up.term, node.term)) {
+                if (node.term.isRenamingOf(up.term)) {
                     return up;
                 }
             }
@@ -1001,7 +981,7 @@ public final class SuperDriver {
 
         private Node embeddedRival(Node node, boolean steps) {
             for (Node up = nextRival(node, steps); up != null; up = nextRival(up, steps)) {
-                if (likeness.isEmbedded(up.term, node.term)) {
+                if (signs.isEmbedded(up.term, node.term)) {
                     return up;
                 }
             }
