@@ -12,6 +12,9 @@ public final class DriveTest {
         withoutParameters();
         swappedParameters();
         oneVariableForTheSamePair();
+        standsForPartsOfTheLet();
+        renamedOneForOne();
+        variablesAreNotInConstructors();
         buildsKeepStepsApart();
         splitWithAllClauses();
         noSuchNode();
@@ -182,6 +185,50 @@ public final class DriveTest {
         residuals(x, "r0 a b", "r0 L a L b", "r0 x8 x9", "L a", "L b", "a", "b");
     }
 
+    /** What the variables stand for begins at other places in the two terms. */
+    private static void standsForPartsOfTheLet() {
+        SuperDriver x = new SuperDriver();
+        Check.function(x, 1, 3, true);
+        Check.body(x, 1, 2, "1bMacLd");
+        Check.goal(x, "1aKN");
+        check.due("drive()", Check.drive(x), 14);
+        nodes(x, 0, 7, 0, 4, 1, 1, 1, 7, 6, 1, 2, 2, 1, 1, 1);
+        nodes(x, 2, 3, NONE, 10, NONE, NONE, NONE, 3, 2, NONE, 2, 1, NONE, NONE, NONE);
+        terms(x, "f1 a K N", "f1 x9 M x8 K L N", "f1 x10 x11 x12", "a", "K", "N",
+            "f1 x14 M x13 x11 L x12", "f1 x15 x16 x17", "x14", "M x13 x11", "L x12");
+        residuals(x, "r2 a K N", "", "r2 x10 x11 x12", "a", "K", "N", "r2 x14 M x13 x11 L x12");
+    }
+
+    private static void renamedOneForOne() {
+        SuperDriver x = new SuperDriver();
+        Check.function(x, 0, 2, false);
+        Check.body(x, 0, NONE, "0aa");
+        Check.goal(x, "0ab");
+        check.due("two become one", Check.drive(x), 4);
+        nodes(x, 0, 3, 7, 6, 1);
+        terms(x, "f0 a b", "f0 a a", "f0 a x8", "a");
+        residuals(x, "r0 a b", "r0 a a", "r0 a x8", "a");
+        Check.function(x, 1, 2, true);
+        Check.body(x, 1, 2, "1ab");
+        Check.goal(x, "1aa");
+        check.due("one becomes two", Check.drive(x), 6);
+        nodes(x, 0, 7, 0, 4, 1, 1, 6);
+        terms(x, "f1 a a", "f1 x8 x9", "f1 x10 x11", "a", "a", "f1 x12 x13");
+        residuals(x, "r2 a a", "", "r2 x10 x11", "a", "a", "r2 x12 x13");
+    }
+
+    private static void variablesAreNotInConstructors() {
+        SuperDriver x = new SuperDriver();
+        Check.function(x, 0, 2, false);
+        Check.body(x, 0, NONE, "0Kb");
+        Check.goal(x, "0ab");
+        check.due("drive()", Check.drive(x), 3);
+        nodes(x, 0, 3, 3, 6);
+        nodes(x, 2, NONE, NONE, 1);
+        nodes(x, 3, 0, 1, 0);
+        residuals(x, "r1 b", "r1 b", "r1 b");
+    }
+
     private static void buildsKeepStepsApart() {
         SuperDriver x = new SuperDriver();
         Check.function(x, 0, 1, false);
@@ -292,6 +339,11 @@ public final class DriveTest {
         check.due("drive()", Check.drive(x), 2);
         terms(x, "f0 a M a M a M a M a M a M a M a M a M a M a a", "x8");
         residuals(x, "r0 a", "x8");
+        Check.function(x, 1, 3, true);
+        Check.body(x, 1, 2, "d");
+        Check.goal(x, "1aMaMaMaMaMaMaMaMaMaMaab");
+        check.due("drive()", Check.drive(x), 2);
+        check.due("what stands last", Check.term(x, 1), "b");
     }
 
     private static SuperDriver manyVariables() {

@@ -132,8 +132,8 @@ public final class FaceTest {
         before = threads.getThreadAllocatedBytes(id);
         SuperDriver y = new SuperDriver();
         made = threads.getThreadAllocatedBytes(id) - before;
-        // 512 objects with all that is in them must find room: some 14,000 elements each.
-        check.dueTrue("an object has " + made + " bytes", made < 56_000 && y.steps() == 0);
+        // 512 objects with all that is in them must find room: some 14,000 fields and elements each.
+        check.dueTrue("an object has " + made + " bytes", made < 64_000 && y.steps() == 0);
     }
 
     private static void driveAndRun(SuperDriver x, int times) {

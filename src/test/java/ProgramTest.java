@@ -152,7 +152,8 @@ public final class ProgramTest {
         Check.function(x, 2, 2, true);
         Check.goal(x, "K");
         Check.drive(x);
-        String[] wrong = {"", "KK", "L", "M", "Ma", "Mabc", "2a", "2abc", "3a", "M2aa", "ab", "LKK"};
+        String[] wrong = {"", "KK", "L", "M", "Ma", "Mabc", "2a", "2abc", "3a", "M2aa", "ab", "LKK",
+            "KL", "aMK", "3", "L3", "3KL"};
         for (String text : wrong) {
             check.due("goal " + text, Check.goal(x, text), Check.ARGUMENT);
             hasTree("refused", x, true);
