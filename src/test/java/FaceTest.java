@@ -14,10 +14,14 @@ import java.util.TreeSet;
 public final class FaceTest {
     private static final Check check = new Check("FaceTest");
     private static final Set<String> FACE = new TreeSet<>(Arrays.asList(
-        "boolean type(long)", "void wipe()", "void forget()", "void function(int, int, boolean)",
-        "void body(int, int)", "void goal()", "boolean input(int)", "int drive()",
+        "boolean type(long)", "void wipe()", "void forget()",
+        "void function(int, int, boolean) IllegalArgumentException IllegalStateException",
+        "void body(int, int) IllegalStateException IllegalArgumentException",
+        "void goal() IllegalArgumentException", "boolean input(int)",
+        "int drive() IllegalStateException UnsupportedOperationException",
         "int node(int, int)", "int term(int, int)", "int residual(int, int)",
-        "int run(boolean, int)", "int result(int)", "int steps()"));
+        "int run(boolean, int) IllegalArgumentException IllegalStateException",
+        "int result(int)", "int steps()"));
 
     public static void main(String[] args) throws Exception {
         theFace();
@@ -58,8 +62,13 @@ public final class FaceTest {
         for (Class<?> part : method.getParameterTypes()) {
             parts.add(part.getSimpleName());
         }
-        return method.getReturnType().getSimpleName() + " " + method.getName()
-            + "(" + String.join(", ", parts) + ")";
+        StringBuilder out = new StringBuilder(method.getReturnType().getSimpleName());
+        out.append(' ').append(method.getName()).append('(').append(String.join(", ", parts));
+        out.append(')');
+        for (Class<?> thrown : method.getExceptionTypes()) {
+            out.append(' ').append(thrown.getSimpleName());
+        }
+        return out.toString();
     }
 
     private static void theClassesInside() {

@@ -5,6 +5,7 @@ public final class OracleTest {
     private static final String CONSTRUCTORS = "KLMNOP";
     private static final int[] ARITY = {0, 1, 2, 0, 1, 2};
     private static final int NONE = SuperDriver.NONE;
+    private static final int RUNS = 3000;
 
     private static final Check check = new Check("OracleTest");
     private static final int[] kindsSeen = new int[8];
@@ -25,7 +26,7 @@ public final class OracleTest {
     }
 
     public static void main(String[] args) {
-        int runs = args.length > 1 ? Integer.parseInt(args[1]) : 3000;
+        int runs = Integer.getInteger("runs", RUNS);
         for (int seed = 0; seed < runs && check.wrong() < 10; seed++) {
             OracleTest test = new OracleTest(seed);
             if (seed % 4 == 3) {
@@ -43,7 +44,7 @@ public final class OracleTest {
         }
         check.dueTrue("some goals are too great", tooGreat > runs / 100);
         check.dueTrue("some goals have the same value in both programs", sameValues > runs / 100);
-        if (args.length > 1) {
+        if (runs != RUNS) {
             System.out.println(java.util.Arrays.toString(kindsSeen));
             System.out.println(java.util.Arrays.toString(endsSeen) + " " + tooGreat
                 + " " + sameValues);
