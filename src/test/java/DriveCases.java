@@ -417,6 +417,11 @@ final class DriveCases {
         check.driven(x, "0LaK", 3);
         check.kinds(x, "336");
         check.terms(x, "f0 L a K", "f0 K L a", "f0 L a K");
+        // Both parts of the one are embedded in a part of the other, but not each in its own.
+        check.driven(x, "0Laa", 3);
+        check.kinds(x, "336");
+        check.driven(x, "0aLa", 3);
+        check.kinds(x, "336");
         // The second part of node 0 is not embedded in that of node 1.
         check.driven(x, "1aN", 6);
         check.kinds(x, "337621");

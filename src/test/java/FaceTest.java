@@ -7,50 +7,96 @@ import java.nio.file.Path;
 import java.util.ArrayList;
 import java.util.Arrays;
 import java.util.List;
-import java.util.Set;
-import java.util.TreeSet;
 
 /** The public face, and those rules of LANGUAGE.md that a program can look at. */
 public final class FaceTest {
     private static final Check check = new Check("FaceTest");
-    private static final Set<String> FACE = new TreeSet<>(Arrays.asList(
-        "boolean type(long)", "void wipe()", "void forget()",
-        "void function(int, int, boolean) IllegalArgumentException IllegalStateException",
-        "void body(int, int) IllegalStateException IllegalArgumentException",
-        "void goal() IllegalArgumentException", "boolean input(int)",
-        "int drive() IllegalStateException UnsupportedOperationException",
-        "int node(int, int)", "int term(int, int)", "int residual(int, int)",
-        "int run(boolean, int) IllegalArgumentException IllegalStateException",
-        "int result(int)", "int steps()"));
+    private static final String SECTION = "The public face";
+    /** As the document writes them. */
+    private static final List<String> FACE = List.of(
+        "public boolean type(long part);",
+        "public void wipe();",
+        "public void forget();",
+        "public void function(int f, int parts, boolean cased)"
+            + " throws IllegalArgumentException, IllegalStateException;",
+        "public void body(int f, int c) throws IllegalStateException, IllegalArgumentException;",
+        "public void goal() throws IllegalArgumentException;",
+        "public boolean input(int v);",
+        "public int drive() throws IllegalStateException, UnsupportedOperationException;",
+        "public int node(int n, int w);",
+        "public int term(int n, int i);",
+        "public int residual(int n, int i);",
+        "public int run(boolean driven, int fuel)"
+            + " throws IllegalArgumentException, IllegalStateException;",
+        "public int result(int i);",
+        "public int steps();");
 
     public static void main(String[] args) throws Exception {
-        theFace();
+        theClass();
+        theMethods();
+        theRest();
+        if (args.length > 1 && Files.isRegularFile(Path.of(args[1]))) {
+            compare(new Document(Path.of(args[1])));
+        }
+        check.by("LANGUAGE.md", "rules 1, 2, 5 and 11");
         theClassesInside();
+        check.by("LANGUAGE.md", "rules 2, 3, 4, 6, 10 and 11");
         if (args.length > 0) {
             theSource(Files.readAllLines(Path.of(args[0])));
         }
+        check.by("LANGUAGE.md", "rule 12");
         callsMakeNoObjects();
         check.end();
     }
 
-    private static void theFace() {
-        Set<String> found = new TreeSet<>();
-        for (Method method : SuperDriver.class.getDeclaredMethods()) {
-            if (!Modifier.isPrivate(method.getModifiers())) {
-                check.dueTrue(method.getName() + " is public", isPublic(method));
-                found.add(shape(method));
-            }
+    private static void compare(Document document) {
+        for (Check.Words one : List.copyOf(check.quoted())) {
+            check.dueTrue(one + " stands there", document.has(one.section(), one.words()));
         }
-        check.due("the methods", found.toString(), FACE.toString());
-        check.due("the constructors", SuperDriver.class.getDeclaredConstructors().length, 1);
-        check.due("its parts", SuperDriver.class.getConstructors()[0].getParameterCount(), 0);
+    }
+
+    private static void theClass() {
+        check.by(SECTION, "public final class SuperDriver {");
         check.dueTrue("final", Modifier.isFinal(SuperDriver.class.getModifiers()));
+        check.dueTrue("public", Modifier.isPublic(SuperDriver.class.getModifiers()));
+        check.due("above it", SuperDriver.class.getSuperclass().getName(), "java.lang.Object");
+        check.due("interfaces", SuperDriver.class.getInterfaces().length, 0);
+        check.by(SECTION, "public static final int NONE = -1;");
+        check.due("NONE", SuperDriver.NONE, -1);
         for (Field field : SuperDriver.class.getDeclaredFields()) {
             boolean isFace = field.getName().equals("NONE");
-            check.dueTrue(field.getName() + " is not to be seen",
-                isFace ? Modifier.isPublic(field.getModifiers())
-                    : Modifier.isPrivate(field.getModifiers()));
+            int want = Modifier.PUBLIC | Modifier.STATIC | Modifier.FINAL;
+            check.dueTrue(field.getName(), isFace ? field.getModifiers() == want
+                : Modifier.isPrivate(field.getModifiers()));
         }
+        check.by(SECTION, "public SuperDriver();");
+        check.due("the constructors", SuperDriver.class.getDeclaredConstructors().length, 1);
+        check.due("the public ones", SuperDriver.class.getConstructors().length, 1);
+        check.due("its parts", SuperDriver.class.getConstructors()[0].getParameterCount(), 0);
+    }
+
+    private static void theMethods() {
+        List<String> found = new ArrayList<>();
+        for (Method method : SuperDriver.class.getDeclaredMethods()) {
+            found.add(shape(method));
+        }
+        for (String line : FACE) {
+            check.by(SECTION, line);
+            // The names of the parts are not to be seen from outside.
+            String want = line.replaceAll("(int|long|boolean) \\w+([,)])", "$1$2");
+            check.dueTrue(want, found.contains(want));
+        }
+    }
+
+    private static void theRest() {
+        check.by(SECTION, "public int steps(); }");
+        int seen = 0;
+        for (Method method : SuperDriver.class.getDeclaredMethods()) {
+            check.dueTrue(method + " is public or private", isPublic(method)
+                || Modifier.isPrivate(method.getModifiers()));
+            seen += isPublic(method) ? 1 : 0;
+        }
+        check.due("public methods", seen, FACE.size());
     }
 
     private static boolean isPublic(Executable what) {
@@ -58,17 +104,22 @@ public final class FaceTest {
     }
 
     private static String shape(Method method) {
-        List<String> parts = new ArrayList<>();
-        for (Class<?> part : method.getParameterTypes()) {
-            parts.add(part.getSimpleName());
+        StringBuilder out = new StringBuilder(Modifier.toString(method.getModifiers()));
+        out.append(' ').append(method.getReturnType().getSimpleName());
+        out.append(' ').append(method.getName());
+        out.append('(').append(names(method.getParameterTypes())).append(')');
+        if (method.getExceptionTypes().length > 0) {
+            out.append(" throws ").append(names(method.getExceptionTypes()));
         }
-        StringBuilder out = new StringBuilder(method.getReturnType().getSimpleName());
-        out.append(' ').append(method.getName()).append('(').append(String.join(", ", parts));
-        out.append(')');
-        for (Class<?> thrown : method.getExceptionTypes()) {
-            out.append(' ').append(thrown.getSimpleName());
+        return out.append(';').toString();
+    }
+
+    private static String names(Class<?>[] types) {
+        List<String> names = new ArrayList<>();
+        for (Class<?> type : types) {
+            names.add(type.getSimpleName());
         }
-        return out.toString();
+        return String.join(", ", names);
     }
 
     private static void theClassesInside() {

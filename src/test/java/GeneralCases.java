@@ -108,6 +108,13 @@ final class GeneralCases {
         check.driven(x, "1aab", 9);
         check.terms(x, "f1 a a b", "f1 M a a M a a M b b", "f1 x8 x8 x9", "M a a", "M b b");
         check.due("new variables", x.node(1, 2), 2);
+        // Another pair stands between them.
+        SuperDriver y = check.program("0/3/plain 0LaLbLc");
+        check.driven(y, "0aba", 7);
+        check.kinds(y, "3762211");
+        check.terms(y, "f0 a b a", "f0 L a L b L a", "f0 x8 x9 x8", "L a", "L b", "a", "b");
+        check.due("new variables", y.node(1, 2), 2);
+        check.residuals(y, "r0 a b", "r0 L a L b", "r0 x8 x9", "L a", "L b", "a", "b");
     }
 
     private void otherPairs() {

@@ -92,11 +92,13 @@ final class ProgramCases {
         check.by(Document.FUNCTION, "IllegalArgumentException if f is not 0 .. 7");
         SuperDriver x = new SuperDriver();
         check.driven(x, "K", 1);
-        for (int f : new int[] {-1, 8, -8, 200, 207, Integer.MIN_VALUE, Integer.MAX_VALUE}) {
-            for (int parts = 1; parts <= 3; parts++) {
+        for (int f = -450; f <= 450; f++) {
+            for (int parts = 0; (f < 0 || f > 7) && parts <= 3; parts++) {
                 check.due("function " + f, Check.function(x, f, parts, true), Check.ARGUMENT);
             }
-            check.due("also the parts", Check.function(x, f, 0, false), Check.ARGUMENT);
+        }
+        for (int f : Check.FAR) {
+            check.due("function " + f, Check.function(x, f, 1, false), Check.ARGUMENT);
         }
         check.dueTrue("the tree", Check.hasTree(x));
         check.due("the first", Check.function(x, 0, 1, true), Check.DONE);
@@ -107,7 +109,7 @@ final class ProgramCases {
         check.by(Document.FUNCTION, "or parts not 1 .. 3");
         SuperDriver x = new SuperDriver();
         check.driven(x, "K", 1);
-        for (int parts : new int[] {0, 4, -1, Integer.MIN_VALUE, Integer.MAX_VALUE}) {
+        for (int parts : new int[] {0, 4, -1, 5, 8, 257, -255, Integer.MIN_VALUE, Integer.MAX_VALUE}) {
             for (int f = 0; f < 8; f++) {
                 check.due("parts " + parts, Check.function(x, f, parts, true), Check.ARGUMENT);
                 check.due("parts " + parts, Check.function(x, f, parts, false), Check.ARGUMENT);
@@ -230,11 +232,14 @@ final class ProgramCases {
         SuperDriver x = check.program("3/1/plain");
         check.driven(x, "K", 1);
         Check.type(x, "LK");
-        int[] none = {0, 2, 4, 7, -1, 8, 103, 203, Integer.MIN_VALUE, Integer.MAX_VALUE};
-        for (int f : none) {
-            for (int c = -2; c < 7; c++) {
+        for (int f = -450; f <= 450; f++) {
+            for (int c = -2; f != 3 && c < 7; c++) {
                 check.due("body(" + f + ", " + c + ")", Check.body(x, f, c), Check.STATE);
             }
+        }
+        for (int f : Check.FAR) {
+            check.due("body(" + f + ", NONE)", Check.body(x, f, NONE), Check.STATE);
+            check.due("body(" + f + ", 0)", Check.body(x, f, 0), Check.STATE);
         }
         check.dueTrue("the tree", Check.hasTree(x));
         check.due("the text is there", Check.body(x, 3, NONE), Check.DONE);

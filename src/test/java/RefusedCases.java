@@ -1,3 +1,5 @@
+import java.util.function.Function;
+import java.util.function.Supplier;
 import java.util.function.ToLongFunction;
 
 /**
@@ -6,6 +8,8 @@ import java.util.function.ToLongFunction;
  */
 final class RefusedCases {
     private static final int NONE = SuperDriver.NONE;
+    private static final String[] TEXTS = {"", "M", "MLK", "LK", "h", "0aa",
+        "LLLLLLLLLLLLLLLLLLLLLLLK"};
 
     private final Check check;
 
@@ -16,7 +20,7 @@ final class RefusedCases {
     void all() {
         check.by(Document.TERMS, "A call that answers false or NONE, or throws, changes nothing but"
             + " what is said");
-        for (String text : new String[] {"", "M", "MLK", "LK", "h", "0aa", "LLLLLLLLLLLLLLLLLLLLLLLK"}) {
+        for (String text : TEXTS) {
             type(text);
             function(text);
             body(text);
@@ -24,11 +28,28 @@ final class RefusedCases {
             input(text);
             look(text);
             run(text);
+            withoutGoal(text);
+            withoutTree(text);
+            withoutInput(text);
+            tooGreat(text);
         }
-        withoutGoal();
-        withoutTree();
-        tooGreat();
     }
+
+    private static boolean isTerm(String text) {
+        return missing(text) == 0;
+    }
+
+    /** How many terms are wanting until the text, one of those above, is a term. */
+    private static int missing(String text) {
+        int missing = 1;
+        for (char letter : text.toCharArray()) {
+            int parts = letter == 'M' || letter == '0' ? 2 : letter == 'L' ? 1 : 0;
+            missing += parts - 1;
+        }
+        return missing;
+    }
+
+    // ---- the calls ----
 
     private void type(String text) {
         for (long part : new long[] {'i', Check.part("KKi"), 255L << 56 | 'K', -1, Long.MIN_VALUE}) {
@@ -47,21 +68,18 @@ final class RefusedCases {
         for (int parts : new int[] {0, 4, Integer.MIN_VALUE}) {
             refused(text, "parts " + parts, x -> Check.function(x, 5, parts, true), Check.ARGUMENT);
         }
-        for (int f = 0; f < 3; f++) {
-            int same = f;
-            for (int parts = 1; parts <= 3; parts++) {
-                int some = parts;
-                refused(text, "function again", x -> Check.function(x, same, some, true), Check.STATE);
-                refused(text, "function again", x -> Check.function(x, same, some, false), Check.STATE);
+        for (int f : new int[] {0, 1, 2}) {
+            for (int parts : new int[] {1, 2, 3}) {
+                refused(text, "plain again", x -> Check.function(x, f, parts, false), Check.STATE);
+                refused(text, "cased again", x -> Check.function(x, f, parts, true), Check.STATE);
             }
         }
     }
 
     private void body(String text) {
         for (int f : new int[] {-1, 8, 3, 7}) {
-            for (int c = -2; c < 7; c++) {
-                int some = c;
-                refused(text, "body(" + f + ", " + c + ")", x -> Check.body(x, f, some), Check.STATE);
+            for (int c : new int[] {-2, NONE, 0, 5, 6}) {
+                refused(text, "body(" + f + ", " + c + ")", x -> Check.body(x, f, c), Check.STATE);
             }
         }
         for (int c : new int[] {-2, 0, 5, 6}) {
@@ -70,14 +88,14 @@ final class RefusedCases {
         for (int c : new int[] {-2, NONE, 6}) {
             refused(text, "body(0, " + c + ")", x -> Check.body(x, 0, c), Check.ARGUMENT);
         }
-        if (text.isEmpty() || text.startsWith("M") || text.equals("h")) {
+        if (!isTerm(text) || text.equals("h")) {
             refused(text, "body(1, NONE)", x -> Check.body(x, 1, NONE), Check.ARGUMENT);
             refused(text, "body(0, 2)", x -> Check.body(x, 0, 2), Check.ARGUMENT);
         }
     }
 
     private void goal(String text) {
-        if (text.isEmpty() || text.startsWith("M")) {
+        if (!isTerm(text)) {
             refused(text, "goal()", Check::goal, Check.ARGUMENT);
         }
     }
@@ -86,7 +104,7 @@ final class RefusedCases {
         for (int v : new int[] {-1, 8, Integer.MIN_VALUE, Integer.MAX_VALUE}) {
             refused(text, "input(" + v + ")", x -> x.input(v) ? 1 : 0, 0);
         }
-        if (text.isEmpty() || text.startsWith("M") || text.startsWith("0") || text.equals("h")) {
+        if (!isTerm(text) || text.startsWith("0") || text.equals("h")) {
             refused(text, "input(0)", x -> x.input(0) ? 1 : 0, 0);
             refused(text, "input(7)", x -> x.input(7) ? 1 : 0, 0);
         }
@@ -115,121 +133,134 @@ final class RefusedCases {
 
     // ---- objects ----
 
-    /** Three functions, a goal, its tree, its inputs, a run, and a text. */
-    private SuperDriver prepared(String text) {
+    /** Three functions, a goal, its tree, its inputs, and a run. */
+    private SuperDriver prepared() {
         SuperDriver x = check.program("0/2/cased K=a M=Ma0bc", "1/1/plain La", "2/3/plain");
         check.driven(x, "00abc", 10);
         check.dueTrue("input", Check.input(x, 0, "MNMNK"));
         check.dueTrue("input", Check.input(x, 1, "MLKK"));
         check.dueTrue("input", Check.input(x, 2, "K"));
         check.runs(x, true, 500, 0, 5, "MNMNMLKK");
-        check.dueTrue("text", Check.type(x, text));
         return x;
     }
 
     private void refused(String text, String what, ToLongFunction<SuperDriver> call, long want) {
-        changesNothing(what + " with text " + text, prepared(text), prepared(text), call, want);
+        changesNothing(what, text, this::prepared, call, want);
     }
 
-    private void changesNothing(String what, SuperDriver x, SuperDriver like,
-            ToLongFunction<SuperDriver> call, long want) {
-        check.due(what, call.applyAsLong(x), want);
-        check.due("all that is seen after " + what, seen(x), seen(like));
-    }
-
-    private void withoutGoal() {
-        for (String text : new String[] {"", "LK"}) {
-            for (int kind = 0; kind < 3; kind++) {
-                int some = kind;
-                ToLongFunction<SuperDriver> call = x ->
-                    some == 0 ? Check.drive(x) : Check.run(x, some == 1, 5);
-                SuperDriver x = check.program("1/1/plain La");
-                SuperDriver like = check.program("1/1/plain La");
-                check.dueTrue("text", Check.type(x, text) && Check.type(like, text));
-                changesNothing("without a goal, " + kind, x, like, call, Check.STATE);
-            }
+    private void withoutGoal(String text) {
+        Supplier<SuperDriver> maker = () -> check.program("0/2/cased K=a", "1/1/plain La");
+        changesNothing("drive() without a goal", text, maker, Check::drive, Check.STATE);
+        for (boolean driven : new boolean[] {false, true}) {
+            changesNothing("run without a goal", text, maker, x -> Check.run(x, driven, 5), Check.STATE);
         }
     }
 
-    private void withoutTree() {
-        SuperDriver[] both = new SuperDriver[2];
-        for (int k = 0; k < 2; k++) {
-            both[k] = prepared("LK");
-            check.due("function", Check.function(both[k], 6, 1, true), Check.DONE);
-        }
-        changesNothing("run(true, 5) without a tree", both[0], both[1],
-            x -> Check.run(x, true, 5), Check.STATE);
-        for (int driven = 0; driven < 2; driven++) {
-            boolean is = driven == 1;
-            for (int k = 0; k < 2; k++) {
-                both[k] = prepared("");
-                check.driven(both[k], "1h", 3);
-            }
-            changesNothing("without an input", both[0], both[1],
-                x -> Check.run(x, is, 5), Check.STATE);
+    private void withoutTree(String text) {
+        Supplier<SuperDriver> maker = () -> {
+            SuperDriver x = prepared();
+            check.due("function", Check.function(x, 6, 1, true), Check.DONE);
+            return x;
+        };
+        changesNothing("run without a tree", text, maker, x -> Check.run(x, true, 5), Check.STATE);
+        changesNothing("node without a tree", text, maker, x -> x.node(0, 0), NONE);
+    }
+
+    private void withoutInput(String text) {
+        Supplier<SuperDriver> maker = () -> {
+            SuperDriver x = prepared();
+            check.driven(x, "1h", 3);
+            return x;
+        };
+        for (boolean driven : new boolean[] {false, true}) {
+            changesNothing("run without input", text, maker, x -> Check.run(x, driven, 5), Check.STATE);
         }
     }
 
     /** There is no tree then, as there was none before; all else is as it was. */
-    private void tooGreat() {
-        SuperDriver[] both = new SuperDriver[2];
-        for (int k = 0; k < 2; k++) {
-            both[k] = prepared("LK");
-            check.due("function", Check.function(both[k], 6, 1, false), Check.DONE);
-            both[k].wipe();
-            check.due("body", Check.body(both[k], 6, NONE, "L6a"), Check.DONE);
-            check.due("goal", Check.goal(both[k], "6a"), Check.DONE);
-            check.dueTrue("text", Check.type(both[k], "LK"));
-        }
-        changesNothing("drive()", both[0], both[1], Check::drive, Check.UNSUPPORTED);
+    private void tooGreat(String text) {
+        Supplier<SuperDriver> maker = () -> {
+            SuperDriver x = prepared();
+            check.due("function", Check.function(x, 6, 1, false), Check.DONE);
+            check.due("body", Check.body(x, 6, NONE, "L6a"), Check.DONE);
+            check.due("goal", Check.goal(x, "6a"), Check.DONE);
+            return x;
+        };
+        changesNothing("a drive too great", text, maker, Check::drive, Check.UNSUPPORTED);
     }
 
     // ---- all that can be seen ----
 
-    private static String seen(SuperDriver x) {
-        StringBuilder out = new StringBuilder();
-        out.append(Check.result(x)).append(' ').append(x.steps()).append('\n');
-        seeTree(x, out);
-        for (int driven = 1; driven >= 0; driven--) {
-            out.append(Check.run(x, driven == 1, 20)).append(Check.result(x)).append(x.steps());
-            out.append('\n');
-        }
-        seeText(x, out);
-        x.wipe();
-        for (int v = 0; v < 8; v++) {
-            out.append(Check.goal(x, String.valueOf((char) ('a' + v))));
-            out.append(Check.run(x, false, 1)).append(Check.result(x)).append('\n');
-        }
-        for (int f = 0; f < 8; f++) {
-            out.append(Check.function(x, f, 1, false)).append(' ');
-            for (String parts : new String[] {"a", "ab", "abc"}) {
-                out.append(Check.goal(x, f + parts)).append(Check.drive(x));
-                x.wipe();
-                seeTree(x, out);
-            }
-        }
-        return out.toString();
+    /** Each look is at an object of its own, for looking changes it. */
+    private void changesNothing(String what, String text, Supplier<SuperDriver> maker,
+            ToLongFunction<SuperDriver> call, long want) {
+        looked(what, text, maker, call, want, RefusedCases::tree);
+        looked(what, text, maker, call, want, RefusedCases::runs);
+        looked(what, text, maker, call, want, RefusedCases::inputs);
+        looked(what, text, maker, call, want, RefusedCases::functions);
+        looked(what, text, maker, call, want, x -> text(x, text));
     }
 
-    private static void seeTree(SuperDriver x, StringBuilder out) {
+    private void looked(String what, String text, Supplier<SuperDriver> maker,
+            ToLongFunction<SuperDriver> call, long want, Function<SuperDriver, String> look) {
+        SuperDriver x = maker.get();
+        SuperDriver like = maker.get();
+        check.dueTrue("text", Check.type(x, text) && Check.type(like, text));
+        check.due(what + " with text " + text, call.applyAsLong(x), want);
+        check.due("what is seen after " + what + " with text " + text, look.apply(x),
+            look.apply(like));
+    }
+
+    private static String tree(SuperDriver x) {
+        StringBuilder out = new StringBuilder();
         for (int n = 0; x.node(n, 0) != NONE; n++) {
             for (int w = 0; w < 4; w++) {
                 out.append(x.node(n, w)).append(' ');
             }
             out.append(Check.term(x, n)).append(", ").append(Check.residual(x, n)).append('\n');
         }
+        return out.toString();
     }
 
-    /** The text is what the goal is when as many letters were typed behind it as it takes. */
-    private static void seeText(SuperDriver x, StringBuilder out) {
-        for (int more = 0; more < 4; more++) {
-            long answer = Check.goal(x);
-            out.append(answer).append(' ');
-            if (answer == Check.DONE) {
-                out.append(Check.drive(x)).append(' ').append(Check.term(x, 0)).append('\n');
-                return;
-            }
-            out.append(x.type('N')).append(' ');
+    /** The latest run, and what the goal and the tree do when they are run. */
+    private static String runs(SuperDriver x) {
+        StringBuilder out = new StringBuilder();
+        out.append(Check.result(x)).append(' ').append(x.steps()).append('\n');
+        for (boolean driven : new boolean[] {true, false}) {
+            out.append(Check.run(x, driven, 20)).append(' ').append(Check.result(x)).append(' ');
+            out.append(x.steps()).append('\n');
         }
+        return out.append(Check.drive(x)).append('\n').append(tree(x)).toString();
+    }
+
+    private static String inputs(SuperDriver x) {
+        StringBuilder out = new StringBuilder();
+        x.wipe();
+        for (int v = 0; v < 8; v++) {
+            out.append(Check.goal(x, String.valueOf((char) ('a' + v)))).append(' ');
+            out.append(Check.run(x, false, 1)).append(' ').append(Check.result(x)).append('\n');
+        }
+        return out.toString();
+    }
+
+    private static String functions(SuperDriver x) {
+        StringBuilder out = new StringBuilder();
+        x.wipe();
+        for (int f = 0; f < 8; f++) {
+            for (String parts : new String[] {"a", "ab", "abc"}) {
+                out.append(Check.goal(x, f + parts)).append(' ').append(Check.drive(x)).append('\n');
+                x.wipe();
+                out.append(tree(x));
+            }
+            out.append(Check.function(x, f, 1, false)).append('\n');
+        }
+        return out.toString();
+    }
+
+    /** The text is what the goal is when behind it those terms were typed that are wanting. */
+    private static String text(SuperDriver x, String text) {
+        StringBuilder out = new StringBuilder();
+        out.append(Check.type(x, "N".repeat(missing(text)))).append(' ').append(Check.goal(x));
+        return out.append(' ').append(Check.drive(x)).append(' ').append(Check.term(x, 0)).toString();
     }
 }

@@ -196,6 +196,9 @@ final class TermCases {
                 check.kinds(x, is ? "31" : "5");
                 check.runs(x, false, 5, is ? 0 : 1, is ? 1 : 0, is ? "K" : "");
             }
+            // A variable is none.
+            check.driven(x, "0a" + VALUES[c], 2);
+            check.kinds(x, "41");
         }
     }
 
