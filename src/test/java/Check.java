@@ -9,8 +9,6 @@ final class Check {
     static final long UNSUPPORTED = -1003;
     /** What a call that ends without an answer or an exception answers here. */
     static final long DONE = -1000;
-    /** Numbers that are far out, for arguments that have a range. */
-    static final int[] FAR = {Integer.MIN_VALUE, -1000, 1000, Integer.MAX_VALUE};
 
     private static final int NONE = SuperDriver.NONE;
 

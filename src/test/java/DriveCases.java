@@ -369,7 +369,7 @@ final class DriveCases {
     private void newVariablesOfGoneNodes() {
         check.by(Document.TERMS, "each used once in the whole drive");
         SuperDriver x = check.program("1/2/cased K=a M=1bMac");
-        for (int time = 0; time < 20; time++) {
+        for (int time = 0; time < 3; time++) {
             check.driven(x, "1aK", 13);
             check.kinds(x, "7004111761211");
             check.terms(x, "f1 a K", "K", "f1 x9 M x8 K", "f1 x10 x11", "a", "K", "x11",

@@ -186,9 +186,9 @@ public final class FaceTest {
         long id = Thread.currentThread().getId();
         driveAndRun(x, 3);
         long before = threads.getThreadAllocatedBytes(id);
-        driveAndRun(x, 170);
+        driveAndRun(x, 160);
         long made = threads.getThreadAllocatedBytes(id) - before;
-        check.dueTrue("510 calls made " + made + " bytes", made < 16_384);
+        check.dueTrue("480 calls made " + made + " bytes", made < 16_384);
         before = threads.getThreadAllocatedBytes(id);
         SuperDriver y = new SuperDriver();
         made = threads.getThreadAllocatedBytes(id) - before;

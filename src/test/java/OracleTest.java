@@ -1,3 +1,5 @@
+import java.util.ArrayList;
+import java.util.List;
 import java.util.Random;
 
 /** Runs of calls on a SuperDriver and on the Oracle: each answer must be the same. */
@@ -6,6 +8,7 @@ public final class OracleTest {
     private static final int[] ARITY = {0, 1, 2, 0, 1, 2};
     private static final int NONE = SuperDriver.NONE;
     private static final int RUNS = 3000;
+    private static final int CALLS = 512;
 
     private static final Check check = new Check("OracleTest");
     private static final int[] kindsSeen = new int[8];
@@ -14,7 +17,10 @@ public final class OracleTest {
     private static int sameValues = 0;
 
     private final Random random;
-    private final SuperDriver x = new SuperDriver();
+    private SuperDriver x = new SuperDriver();
+    /** How many calls x had, and those of them that changed something. */
+    private int calls = 0;
+    private final List<Check.Call> changes = new ArrayList<>();
     private final Oracle oracle = new Oracle();
     private final StringBuilder log = new StringBuilder();
     private final int[] parts = new int[8];
@@ -52,7 +58,18 @@ public final class OracleTest {
         check.end();
     }
 
+    /** A call that changes something, or may do so. */
     private long both(String what, Check.Call mine, Check.Call theirs) {
+        long got = look(what, mine, theirs);
+        changes.add(mine);
+        return got;
+    }
+
+    private long look(String what, Check.Call mine, Check.Call theirs) {
+        if (calls >= CALLS) {
+            renew();
+        }
+        calls++;
         log.append(what).append(' ');
         long got = Check.answer(mine);
         long want = Check.answer(theirs);
@@ -62,6 +79,16 @@ public final class OracleTest {
             check.due(what, got, want);
         }
         return got;
+    }
+
+    /** Of an object that had 512 calls nothing is promised: so there is another one like it. */
+    private void renew() {
+        x = new SuperDriver();
+        calls = changes.size();
+        for (Check.Call change : changes) {
+            Check.answer(change);
+        }
+        check.dueTrue("room for more calls than " + calls, calls < CALLS);
     }
 
     // ---- the calls, on both ----
@@ -77,15 +104,23 @@ public final class OracleTest {
     }
 
     private void wipe() {
-        log.append("wipe() ");
-        x.wipe();
-        oracle.wipe();
+        both("wipe()", () -> {
+            x.wipe();
+            return Check.DONE;
+        }, () -> {
+            oracle.wipe();
+            return Check.DONE;
+        });
     }
 
     private void forget() {
-        log.append("forget() ");
-        x.forget();
-        oracle.forget();
+        both("forget()", () -> {
+            x.forget();
+            return Check.DONE;
+        }, () -> {
+            oracle.forget();
+            return Check.DONE;
+        });
         java.util.Arrays.fill(parts, 0);
     }
 
@@ -121,7 +156,7 @@ public final class OracleTest {
     }
 
     private long drive() {
-        long got = both("drive()", x::drive, oracle::drive);
+        long got = both("drive()", () -> x.drive(), oracle::drive);
         if (got == Check.UNSUPPORTED) {
             tooGreat++;
         }
@@ -129,21 +164,21 @@ public final class OracleTest {
     }
 
     private void look(int n, int i) {
-        both("node(" + n + ", " + i + ")", () -> x.node(n, i), () -> oracle.node(n, i));
-        both("term(" + n + ", " + i + ")", () -> x.term(n, i), () -> oracle.term(n, i));
-        both("residual(" + n + ", " + i + ")", () -> x.residual(n, i), () -> oracle.residual(n, i));
+        look("node(" + n + ", " + i + ")", () -> x.node(n, i), () -> oracle.node(n, i));
+        look("term(" + n + ", " + i + ")", () -> x.term(n, i), () -> oracle.term(n, i));
+        look("residual(" + n + ", " + i + ")", () -> x.residual(n, i), () -> oracle.residual(n, i));
     }
 
     private void result(int i) {
-        both("result(" + i + ")", () -> x.result(i), () -> oracle.result(i));
+        look("result(" + i + ")", () -> x.result(i), () -> oracle.result(i));
     }
 
     private int run(boolean driven, int fuel) {
         long got = both("run(" + driven + ", " + fuel + ")",
             () -> x.run(driven, fuel), () -> oracle.run(driven, fuel));
-        both("steps()", x::steps, oracle::steps);
+        look("steps()", () -> x.steps(), oracle::steps);
         int length = log.length();
-        for (int i = -2; i < x.result(NONE) + 1; i++) {
+        for (int i = -2; i < oracle.result(NONE) + 1; i++) {
             result(i);
             log.setLength(length);
         }
@@ -156,12 +191,13 @@ public final class OracleTest {
     private void lookAtAll(long nodes) {
         int length = log.length();
         for (int n = -1; n <= nodes; n++) {
-            for (int i = -2; i <= Math.max(4, Math.max(x.term(n, NONE), x.residual(n, NONE))); i++) {
+            int last = Math.max(4, Math.max(oracle.term(n, NONE), oracle.residual(n, NONE)));
+            for (int i = -2; i <= last; i++) {
                 look(n, i);
                 log.setLength(length);
             }
-            if (x.node(n, 0) != NONE) {
-                kindsSeen[x.node(n, 0)]++;
+            if (oracle.node(n, 0) != NONE) {
+                kindsSeen[oracle.node(n, 0)]++;
             }
         }
     }
@@ -214,13 +250,22 @@ public final class OracleTest {
     /** The supercompiler's own promise: what the one program computes the other one does, too. */
     private void runBoth() {
         int plain = run(false, 500);
-        String value = Check.result(x);
+        List<Integer> value = value();
         int driven = run(true, 500);
         if (plain >= 0 && plain < 2 && driven >= 0 && driven < 2) {
             check.due(log + "both ends", driven, plain);
-            check.due(log + "both values", Check.result(x), value);
+            check.due(log + "both values", value().toString(), value.toString());
             sameValues++;
         }
+    }
+
+    /** As the oracle has it: that x has the same was looked at behind the run. */
+    private List<Integer> value() {
+        List<Integer> all = new ArrayList<>();
+        for (int i = 0; i < oracle.result(NONE); i++) {
+            all.add(oracle.result(i));
+        }
+        return all;
     }
 
     private String someTerm(int variables, int size, boolean calls) {

@@ -32,6 +32,7 @@ final class ProgramCases {
         goalIsTaken();
         goalTakesTextAndTree();
         noGoal();
+        allBodiesAreKept();
         inputIsTaken();
         inputInPlace();
         inputTakesText();
@@ -92,13 +93,15 @@ final class ProgramCases {
         check.by(Document.FUNCTION, "IllegalArgumentException if f is not 0 .. 7");
         SuperDriver x = new SuperDriver();
         check.driven(x, "K", 1);
-        for (int f = -450; f <= 450; f++) {
-            for (int parts = 0; (f < 0 || f > 7) && parts <= 3; parts++) {
+        for (int f : new int[] {-1, 8, Integer.MIN_VALUE, Integer.MAX_VALUE}) {
+            for (int parts = 0; parts <= 4; parts++) {
                 check.due("function " + f, Check.function(x, f, parts, true), Check.ARGUMENT);
             }
         }
-        for (int f : Check.FAR) {
-            check.due("function " + f, Check.function(x, f, 1, false), Check.ARGUMENT);
+        for (int f = -450; f <= 450; f++) {
+            boolean is = f >= 0 && f <= 7;
+            long got = Check.function(new SuperDriver(), f, 1, false);
+            check.due("function " + f, got, is ? Check.DONE : Check.ARGUMENT);
         }
         check.dueTrue("the tree", Check.hasTree(x));
         check.due("the first", Check.function(x, 0, 1, true), Check.DONE);
@@ -210,6 +213,29 @@ final class ProgramCases {
         check.runs(x, false, 5, 0, 1, "OOON");
     }
 
+    /** As many functions and clauses as there can be, each with a body of its own. */
+    private void allBodiesAreKept() {
+        check.by(Document.BODY, "becomes the body of");
+        SuperDriver x = new SuperDriver();
+        for (int f = 0; f < 8; f++) {
+            check.due("function", Check.function(x, f, 1, true), Check.DONE);
+        }
+        for (int k = 0; k < 48; k++) {
+            check.due("body", Check.body(x, k / 6, k % 6, bodyOf(k)), Check.DONE);
+        }
+        String[] calls = {"K", "LK", "MKK", "N", "OK", "PKK"};
+        for (int k = 47; k >= 0; k--) {
+            check.due("goal", Check.goal(x, k / 6 + calls[k % 6]), Check.DONE);
+            check.due("run", Check.run(x, false, 1), 0);
+            check.due("how many", x.result(NONE), bodyOf(k).length());
+            check.due("the place of O", x.result(k / 6), bodyOf(k).charAt(k / 6) - 'K');
+        }
+    }
+
+    private static String bodyOf(int k) {
+        return "L".repeat(k / 6) + "O".repeat(1 + k % 6) + "K";
+    }
+
     private void bodyTakesTextAndTree() {
         check.by(Document.BODY, "the text is empty and there is no tree then");
         SuperDriver x = check.program("0/1/plain", "1/1/cased");
@@ -232,14 +258,14 @@ final class ProgramCases {
         SuperDriver x = check.program("3/1/plain");
         check.driven(x, "K", 1);
         Check.type(x, "LK");
-        for (int f = -450; f <= 450; f++) {
-            for (int c = -2; f != 3 && c < 7; c++) {
+        for (int f : new int[] {0, 2, 4, 7, -1, 8, Integer.MIN_VALUE, Integer.MAX_VALUE}) {
+            for (int c = -2; c < 7; c++) {
                 check.due("body(" + f + ", " + c + ")", Check.body(x, f, c), Check.STATE);
             }
         }
-        for (int f : Check.FAR) {
-            check.due("body(" + f + ", NONE)", Check.body(x, f, NONE), Check.STATE);
-            check.due("body(" + f + ", 0)", Check.body(x, f, 0), Check.STATE);
+        for (int f = -450; f <= 450; f++) {
+            SuperDriver y = check.program("3/1/plain");
+            check.due("body of " + f, Check.body(y, f, NONE, "K"), f == 3 ? Check.DONE : Check.STATE);
         }
         check.dueTrue("the tree", Check.hasTree(x));
         check.due("the text is there", Check.body(x, 3, NONE), Check.DONE);

@@ -248,9 +248,12 @@ final class RefusedCases {
         x.wipe();
         for (int f = 0; f < 8; f++) {
             for (String parts : new String[] {"a", "ab", "abc"}) {
-                out.append(Check.goal(x, f + parts)).append(' ').append(Check.drive(x)).append('\n');
+                long goal = Check.goal(x, f + parts);
+                out.append(goal).append(' ');
+                if (goal == Check.DONE) {
+                    out.append(Check.drive(x)).append(' ').append(Check.kinds(x)).append('\n');
+                }
                 x.wipe();
-                out.append(tree(x));
             }
             out.append(Check.function(x, f, 1, false)).append('\n');
         }
