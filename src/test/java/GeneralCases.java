@@ -78,6 +78,10 @@ final class GeneralCases {
         check.driven(x, "1ab", 7);
         check.kinds(x, "3762211");
         check.terms(x, "f1 a b", "f1 L b L b", "f1 x8 x9", "L b", "L b", "b", "b");
+        // It stays in the residual term of the LET, whatever else it stands for in a body.
+        check.driven(x, "0ba", 5);
+        check.kinds(x, "37621");
+        check.residuals(x, "r0 b a", "r0 b L a", "r0 b x8", "L a", "a");
     }
 
     private void behindTheTwoTerms() {
@@ -113,6 +117,12 @@ final class GeneralCases {
         check.driven(y, "0aba", 7);
         check.kinds(y, "3762211");
         check.terms(y, "f0 a b a", "f0 L a L b L a", "f0 x8 x9 x8", "L a", "L b", "a", "b");
+        check.due("new variables", y.node(1, 2), 2);
+        check.residuals(y, "r0 a b", "r0 L a L b", "r0 x8 x9", "L a", "L b", "a", "b");
+        // It is not the first pair that comes again.
+        check.driven(y, "0abb", 7);
+        check.kinds(y, "3762211");
+        check.terms(y, "f0 a b b", "f0 L a L b L b", "f0 x8 x9 x9", "L a", "L b", "a", "b");
         check.due("new variables", y.node(1, 2), 2);
         check.residuals(y, "r0 a b", "r0 L a L b", "r0 x8 x9", "L a", "L b", "a", "b");
     }

@@ -19,10 +19,14 @@ final class LimitCases {
         signsByAStep();
         signsByASplit();
         signsBeforeUnfolding();
+        fortySignsBeforeUnfolding();
+        rivalsOfFortySigns();
         variablesBySplits();
+        variableThatIsDropped();
         residualTermOfNodeZero();
         residualTermOfAnotherNode();
         residualTermsOfGoneNodes();
+        longResidualTermsOfGoneNodes();
         noTreeThen();
     }
 
@@ -127,6 +131,39 @@ final class LimitCases {
         check.due("what stands last", Check.term(x, 1), "b");
     }
 
+    /** 26 of 40 signs are v, and each of them becomes three. */
+    private void fortySignsBeforeUnfolding() {
+        check.by(Document.TERMS, "each with a term of at most 40 signs");
+        SuperDriver x = check.program("0/3/cased M=d", "1/3/plain 0a7bb77aaa7aaaac", "7/3/plain");
+        check.driven(x, "1a77aaa7aaa7aaah", 3);
+        check.kinds(x, "341");
+        check.due("term(1, NONE)", x.term(1, NONE), 40);
+        check.due("what stands last", Check.term(x, 2), "h");
+        check.residuals(x, "r1 a h", "r1 a h", "h");
+    }
+
+    private void rivalsOfFortySigns() {
+        check.by(Document.TERMS, "each with a term of at most 40 signs");
+        SuperDriver x = check.program("0/1/plain 0LMaMaa", "1/3/plain 2abLLMcMcc", "2/3/plain 2aac",
+            "3/3/plain 4abLLMcMcc", "4/3/plain 4bac");
+        // The lower one has 40.
+        check.driven(x, "0LLLLLLLLLLLb", 24);
+        check.kinds(x, "703272622222122211222221");
+        check.due("term(0, NONE)", x.term(0, NONE), 13);
+        check.due("term(1, NONE)", x.term(1, NONE), 40);
+        // Both have 40, and the lower one is made more general.
+        check.driven(x, "1abLLLLLLLLLLc", 5);
+        check.kinds(x, "33761");
+        for (int n = 1; n <= 3; n++) {
+            check.due("term(" + n + ", NONE)", x.term(n, NONE), 40);
+        }
+        check.residuals(x, "r1 a b c", "r1 a b c", "r1 a a c", "r1 a x8 c", "a");
+        // Both have 40, and the lower one is a renaming.
+        check.driven(x, "3abLLLLLLLLLLc", 3);
+        check.kinds(x, "336");
+        check.residuals(x, "r1 a b c", "r1 a b c", "r1 b a c");
+    }
+
     /** Each SPLIT takes four variables for two nodes, so these come to their end before nodes do. */
     private SuperDriver manyVariables(String more) {
         return check.program("0/1/cased M=1a P=1a" + more, "1/1/cased M=2a P=2a",
@@ -147,6 +184,17 @@ final class LimitCases {
         SuperDriver z = manyVariables(" L=N");
         check.due("goal", Check.goal(z, "0a"), Check.DONE);
         tooGreat(z);
+    }
+
+    /** It comes when v becomes the constructor, before the unfolding leaves it out. */
+    private void variableThatIsDropped() {
+        check.by(Document.TERMS, "a variable above 99");
+        SuperDriver x = manyVariables("");
+        check.due("body", Check.body(x, 4, 5, "a"), Check.DONE);
+        check.driven(x, "0a", 47);
+        check.due("the last one but one", x.term(46, 0), 98);
+        check.due("body", Check.body(x, 0, 1, "N"), Check.DONE);
+        tooGreat(x);
     }
 
     // ---- residual terms ----
@@ -189,6 +237,19 @@ final class LimitCases {
         check.due("a node that is gone", x.node(1, 0), 0);
         check.due("its residual term", x.residual(1, NONE), NONE);
         check.due("its residual term", x.residual(1, 0), NONE);
+    }
+
+    /** Node 3, a LET, has one of 115 signs; with a clause more it and all below node 0 goes. */
+    private void longResidualTermsOfGoneNodes() {
+        check.by(Document.TERMS, "(that is not gone)");
+        SuperDriver x = check.program("0/3/cased", "1/3/plain MM0abc0abcM0abc0abc",
+            "2/3/plain 12abc0abc0abc", "3/3/cased L=2abc", "7/3/plain");
+        check.due("goal", Check.goal(x, "3a7bcd7efMgh"), Check.DONE);
+        tooGreat(x);
+        check.due("body", Check.body(x, 3, 4, "LLLLL3aLbc"), Check.DONE);
+        check.due("drive()", Check.drive(x), 46);
+        check.kinds(x, "7000000000000000000041532723644222222444476121");
+        check.due("node 25, like node 3", x.residual(25, NONE), 91);
     }
 
     private void noTreeThen() {

@@ -24,6 +24,7 @@ final class ResidualCases {
         ofALet();
         ofALetThatDropsAndDoubles();
         plainFunction();
+        plainFunctionWithManyParts();
         plainFunctionThatChangesParts();
         casedFunction();
         casedFunctionWithChangedParts();
@@ -129,6 +130,16 @@ final class ResidualCases {
         check.driven(x, "M0bLc1ba", 5);
         check.kinds(x, "24316");
         check.residuals(x, "M r1 b c r2 b a", "r1 b c", "r2 b a", "K", "r2 a b");
+        // What stands behind its parts is none of them.
+        SuperDriver y = check.program("0/2/cased K=a L=Mab");
+        check.due("goal", Check.goal(y, "M0abP0bcN"), Check.DONE);
+        check.dueTrue("drive()", Check.drive(y) > 0);
+        check.residuals(y, "M r1 a b P r5 b c N");
+        check.dueTrue("input", Check.input(y, 0, "LN"));
+        check.dueTrue("input", Check.input(y, 1, "K"));
+        check.dueTrue("input", Check.input(y, 2, "OK"));
+        check.runs(y, true, 9, 0, 2, "MMNKPOKN");
+        check.runs(y, false, 9, 0, 2, "MMNKPOKN");
     }
 
     private void ofAStep() {
@@ -183,6 +194,19 @@ final class ResidualCases {
         check.dueTrue("input", Check.input(x, 0, "OK"));
         check.runs(x, true, 5, 0, 1, "MLOKLOK");
         check.runs(x, false, 5, 0, 2, "MLOKLOK");
+    }
+
+    private void plainFunctionWithManyParts() {
+        check.by(Document.TERMS, "The function of a node 3 is plain");
+        SuperDriver x = check.program("0/3/plain 10abcMaMbc", "1/2/plain Pbb");
+        check.driven(x, "P0cabN", 14);
+        check.kinds(x, "23173622121111");
+        check.residuals(x, "P r1 c a b N", "r1 c a b");
+        check.dueTrue("input", Check.input(x, 2, "N"));
+        check.dueTrue("input", Check.input(x, 0, "OK"));
+        check.dueTrue("input", Check.input(x, 1, "LN"));
+        check.runs(x, true, 5, 0, 1, "PPMNMOKLNMNMOKLNN");
+        check.runs(x, false, 5, 0, 2, "PPMNMOKLNMNMOKLNN");
     }
 
     private void plainFunctionThatChangesParts() {

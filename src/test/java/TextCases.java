@@ -87,16 +87,17 @@ final class TextCases {
         check.by(section, words == null ? "an empty text" : words);
         check.due(name + ": goal() of no text", Check.goal(x), Check.ARGUMENT);
         check.dueFalse(name + ": input(0) of no text", x.input(0));
+        check.by(section, words == null ? "no inputs" : words);
+        for (int v = 0; v < 8; v++) {
+            check.due(name + ": goal " + v, Check.goal(x, LETTERS.substring(v, v + 1)), Check.DONE);
+            check.due(name + ": no input " + v, Check.run(x, false, 1), Check.STATE);
+        }
+        check.by(section, words == null ? "an empty text" : words);
         check.dueTrue(name + ": 24 letters have room", Check.type(x, FULL));
         check.dueTrue(name + ": input(0) of 24 letters", x.input(0));
         check.due(name + ": goal", Check.goal(x, "a"), Check.DONE);
         check.due(name + ": run", Check.run(x, false, 1), 0);
         check.due(name + ": the 24 letters alone", Check.result(x), FULL);
-        check.by(section, words == null ? "no inputs" : words);
-        for (int v = 1; v < 8; v++) {
-            check.due(name + ": goal " + v, Check.goal(x, LETTERS.substring(v, v + 1)), Check.DONE);
-            check.due(name + ": no input " + v, Check.run(x, false, 1), Check.STATE);
-        }
         check.by(section, words == null ? "No functions" : words);
         for (int f = 0; f < 8; f++) {
             check.due(name + ": body of " + f, Check.body(x, f, NONE, "K"), Check.STATE);
