@@ -11,6 +11,9 @@ final class Check {
     static final long DONE = -1000;
 
     private static final int NONE = SuperDriver.NONE;
+    private static final int SECONDS = 300;
+    /** How a test ends in which a call does not. */
+    private static final int NO_END = 3;
 
     /** A call of the face that may throw. */
     interface Call {
@@ -28,6 +31,21 @@ final class Check {
 
     Check(String name) {
         this.name = name;
+        Thread watch = new Thread(this::waitForEnd);
+        watch.setDaemon(true);
+        watch.start();
+    }
+
+    /** A call that does not end is a fault, too, and must not hold up the test for ever. */
+    private void waitForEnd() {
+        int seconds = Integer.getInteger("seconds", SECONDS);
+        try {
+            Thread.sleep(seconds * 1000L);
+        } catch (InterruptedException e) {
+            return;
+        }
+        System.out.println(name + due + ": no end after " + seconds + " seconds");
+        Runtime.getRuntime().halt(NO_END);
     }
 
     /** From here on, what is due is due by these words of the document. */
